@@ -41,7 +41,8 @@ public final class TideTables {
     private final int[] firsts = new int[YEARS + 1];
 
     // The minutes of one day's extremes, kept because a line is read sign by sign:
-    // without them each sign would cost the heights of a whole day.
+    // without them each sign would cost the heights of a whole day. Every change but
+    // that of the level, which moves all heights alike, makes them unknown again.
     private final int[] turns = new int[DAY_MINUTES];
     private int turnCount;
     private int turnDay = NONE;
@@ -61,7 +62,6 @@ public final class TideTables {
         }
         int had = level;
         level = v;
-        forgetTurns();
         return had;
     }
 

@@ -3,6 +3,7 @@ import java.util.ArrayList;
 import java.util.Arrays;
 import java.util.List;
 import java.util.Random;
+import java.util.concurrent.Callable;
 import java.util.function.IntUnaryOperator;
 
 /**
@@ -10,8 +11,9 @@ import java.util.function.IntUnaryOperator;
  * that follows the document's words in whole numbers without limit and keeps nothing between calls.
  */
 public final class ModelTest {
-    private static final int RUNS = 60;
-    private static final int CALLS = 100;
+    private static final int RUNS = 30;
+    // Nothing is promised of an object behind its 512th call; a step of a run makes 31 calls at most.
+    private static final int CALLS = 512 - 31;
     private static final BigInteger ONE = BigInteger.TWO.pow(30);
     private static final BigInteger TURN = BigInteger.TWO.pow(48);
 
@@ -24,6 +26,7 @@ public final class ModelTest {
     private final int[] days = new int[10];
     // A day that the run comes back to, so that what is kept of a day is put to the test.
     private int homeDay;
+    private int calls = 0;
 
     private ModelTest(int seed) {
         random = new Random(seed);
@@ -38,13 +41,16 @@ public final class ModelTest {
         for (int seed = 0; seed < RUNS; seed++) {
             new ModelTest(seed).run(seed);
         }
+        for (int day = 0; day < 4; day++) {
+            new ModelTest(RUNS + day).runTrembling(day);
+        }
         Checks.end();
     }
 
     private void run(int seed) {
-        for (int n = 0; n < CALLS; n++) {
-            String where = "seed " + seed + ", call " + n + ": ";
-            int kind = n < 4 ? 1 : random.nextInt(16);
+        while (calls < CALLS) {
+            String where = "seed " + seed + ", call " + calls + ": ";
+            int kind = calls < 4 ? 1 : random.nextInt(16);
             if (kind < 5) {
                 setSomething(where, kind);
             } else if (kind < 10) {
@@ -55,6 +61,35 @@ public final class ModelTest {
         }
     }
 
+    // Heights at the edge of rounding, where a minute's extreme has another beside it.
+    private void runTrembling(int day) {
+        long[][] rows = {{1, 32768, 33722727399424L}, {1, 32768, 247752202158080L}, {1, 0, 153515743117312L}};
+        for (int i = 0; i < rows.length; i++) {
+            tables.constituent(i, (int) rows[i][0], rows[i][1], rows[i][2]);
+            constituents[i] = rows[i];
+        }
+        List<int[]> found = extremes(day);
+        compare("trembling day " + day, () -> tables.extremes(day), found::size);
+        for (int n = 0; n < found.size() && calls < CALLS; n += 7) {
+            int k = n;
+            for (int w = 0; w < 3; w++) {
+                int what = w;
+                compare("trembling extreme " + day + " " + k + " " + what,
+                        () -> tables.extreme(day, k, what), () -> extreme(found, k, what));
+            }
+        }
+    }
+
+    private void compare(String what, Callable<Object> call, Callable<Object> model) {
+        calls++;
+        Checks.due(what, call, Checks.answer(model));
+    }
+
+    private void compare(String what, Runnable call, Runnable model) {
+        calls++;
+        Checks.due(what, call, Checks.answer(model));
+    }
+
     // The calls
 
     private void setSomething(String where, int kind) {
@@ -63,27 +98,27 @@ public final class ModelTest {
         switch (kind) {
             case 0 -> {
                 int v = random.nextInt(8) == 0 ? random.nextInt(2200001) - 1100000 : random.nextInt(30001) - 15000;
-                Checks.due(where + "level " + v, () -> tables.level(v), Checks.answer(() -> level(v)));
+                compare(where + "level " + v, () -> tables.level(v), () -> level(v));
             }
             case 1, 2 -> {
                 int amplitude = random.nextBoolean() ? pick(100001) : pick(6);
                 long speed = random.nextInt(3) == 0 ? 1L << random.nextInt(41) : pickLong(1L << 40);
                 long phase = pickLong(1L << 48);
-                Checks.due(where + "constituent " + i + " " + amplitude + " " + speed + " " + phase,
+                compare(where + "constituent " + i + " " + amplitude + " " + speed + " " + phase,
                         () -> tables.constituent(i, amplitude, speed, phase),
-                        Checks.answer(() -> constituent(i, amplitude, speed, phase)));
+                        () -> constituent(i, amplitude, speed, phase));
             }
             case 3 -> {
                 int factor = pick(81921);
                 long shift = pickLong(1L << 48);
-                Checks.due(where + "node " + i + " " + year + " " + factor + " " + shift,
+                compare(where + "node " + i + " " + year + " " + factor + " " + shift,
                         () -> tables.node(i, year, factor, shift),
-                        Checks.answer(() -> node(i, year, factor, shift)));
+                        () -> node(i, year, factor, shift));
             }
             default -> {
                 int n = random.nextInt(8) == 0 ? 364 + 3 * random.nextInt(2) : 365 + random.nextInt(2);
-                Checks.due(where + "days " + year + " " + n,
-                        () -> tables.days(year, n), Checks.answer(() -> days(year, n)));
+                compare(where + "days " + year + " " + n,
+                        () -> tables.days(year, n), () -> days(year, n));
             }
         }
     }
@@ -93,22 +128,22 @@ public final class ModelTest {
         switch (kind) {
             case 5 -> {
                 int year = pick(11);
-                Checks.due(where + "first " + year, () -> tables.first(year), Checks.answer(() -> first(year)));
-                Checks.due(where + "year " + minute, () -> tables.year(minute), Checks.answer(() -> year(minute)));
+                compare(where + "first " + year, () -> tables.first(year), () -> first(year));
+                compare(where + "year " + minute, () -> tables.year(minute), () -> year(minute));
             }
             case 6 -> {
                 int i = pick(8);
-                Checks.due(where + "position " + i + " " + minute,
-                        () -> tables.position(i, minute), Checks.answer(() -> position(i, minute)));
+                compare(where + "position " + i + " " + minute,
+                        () -> tables.position(i, minute), () -> position(i, minute));
             }
             case 7 -> {
                 long x = random.nextInt(4) == 0
                         ? random.nextInt(6) * (1L << 46) + random.nextInt(5) * 32768L - 65536
                         : pickLong(1L << 48);
-                Checks.due(where + "cosine " + x, () -> tables.cosine(x), Checks.answer(() -> cosine(x)));
+                compare(where + "cosine " + x, () -> tables.cosine(x), () -> cosine(x));
             }
-            case 8 -> Checks.due(where + "height " + minute,
-                    () -> tables.height(minute), Checks.answer(() -> height(minute)));
+            case 8 -> compare(where + "height " + minute,
+                    () -> tables.height(minute), () -> height(minute));
             default -> askMinutes(where, minute);
         }
     }
@@ -116,35 +151,35 @@ public final class ModelTest {
     private void askMinutes(String where, int minute) {
         if (random.nextBoolean()) {
             int n = random.nextBoolean() ? pick(20) : pick(2001);
-            Checks.due(where + "mean " + minute + " " + n,
-                    () -> tables.mean(minute, n), Checks.answer(() -> mean(minute, n)));
+            compare(where + "mean " + minute + " " + n,
+                    () -> tables.mean(minute, n), () -> mean(minute, n));
             return;
         }
         int near = minute < 0 || minute >= first(10) ? 0 : height(minute);
         int v = near + random.nextInt(2 * (Math.abs(near - level) / 2 + 2)) - Math.abs(near - level) / 2 - 2;
         int span = random.nextBoolean() ? pick(60) : pick(1001);
-        Checks.due(where + "above " + minute + " " + v + " " + span,
-                () -> tables.above(minute, v, span), Checks.answer(() -> above(minute, v, span)));
+        compare(where + "above " + minute + " " + v + " " + span,
+                () -> tables.above(minute, v, span), () -> above(minute, v, span));
     }
 
     private void askADay(String where, int kind) {
         int day = random.nextInt(3) == 0 ? pick(first(10) / 1440) : homeDay;
         List<int[]> found = day < 0 || day >= first(10) / 1440 ? List.of() : extremes(day);
-        Checks.due(where + "extremes " + day,
-                () -> tables.extremes(day), Checks.answer(() -> countOfExtremes(day, found)));
+        compare(where + "extremes " + day,
+                () -> tables.extremes(day), () -> countOfExtremes(day, found));
         int k = pick(Math.max(1, found.size()));
         int what = random.nextInt(10) == 0 ? random.nextInt(7) - 2 : random.nextInt(3);
         if (kind < 13) {
-            Checks.due(where + "extreme " + day + " " + k + " " + what,
-                    () -> tables.extreme(day, k, what), Checks.answer(() -> extreme(found, k, what)));
+            compare(where + "extreme " + day + " " + k + " " + what,
+                    () -> tables.extreme(day, k, what), () -> extreme(found, k, what));
             return;
         }
-        Checks.due(where + "line " + day + " " + k,
-                () -> tables.line(day, k), Checks.answer(() -> line(found, k).length()));
+        compare(where + "line " + day + " " + k,
+                () -> tables.line(day, k), () -> line(found, k).length());
         for (int j = -1; j < 28; j++) {
             int at = j;
-            Checks.due(where + "sign " + day + " " + k + " " + at,
-                    () -> tables.sign(day, k, at), Checks.answer(() -> sign(found, k, at)));
+            compare(where + "sign " + day + " " + k + " " + at,
+                    () -> tables.sign(day, k, at), () -> sign(found, k, at));
         }
     }
 

@@ -32,6 +32,7 @@ public final class PromisesTest {
         extremes();
         extremesOfRows();
         rowsAtMidnight();
+        tremblingDay();
         extremesFollowChanges();
         extreme();
         line();
@@ -324,6 +325,7 @@ public final class PromisesTest {
         TideTables x = new TideTables();
         x.constituent(0, 1000, 0, 0);
         x.node(0, 1, 65536, TURN / 2);
+        Checks.due("mean from the first minute", () -> x.mean(0, 1), 1000);
         Checks.due("mean of one", () -> x.mean(YEAR - 1, 1), 1000);
         Checks.due("mean of two", () -> x.mean(YEAR - 1, 2), 0);
         Checks.due("mean of three", () -> x.mean(YEAR - 1, 3), -334);
@@ -392,6 +394,25 @@ public final class PromisesTest {
         Checks.due("the last but one minute", () -> y.extreme(0, y.extremes(0) - 1, 0), 1438);
         y.constituent(0, 100000, SPEED_512, TURN - (1439 * SPEED_512) % TURN);
         Checks.due("the last minute", () -> y.extreme(0, y.extremes(0) - 1, 0), 1439 - 256);
+    }
+
+    // Two cosines that step by turns, one down and one up, with their sum at the edge of rounding:
+    // the height trembles between 0 and 1, often with an extreme every minute.
+    private static void tremblingDay() {
+        TideTables x = new TideTables();
+        x.constituent(0, 1, 32768, 33722727399424L);
+        x.constituent(1, 1, 32768, 247752202158080L);
+        x.constituent(2, 1, 0, 153515743117312L);
+        Checks.due("extremes of a trembling day", () -> x.extremes(0), 1038);
+        // Every fifth, so that the object is not used for more than 512 calls.
+        for (int k = 0; k < 1038; k += 5) {
+            int n = k;
+            Checks.due("trembling: height of " + n, () -> x.extreme(0, n, 1), 1 - n % 2);
+            Checks.due("trembling: kind of " + n, () -> x.extreme(0, n, 2), 1 - n % 2);
+        }
+        Checks.due("trembling: a minute", () -> x.extreme(0, 719, 0), 1000);
+        Checks.due("trembling: the next", () -> x.extreme(0, 720, 0), 1001);
+        Checks.due("trembling: no more", () -> x.extreme(0, 1038, 0), INDEX);
     }
 
     private static void extremesFollowChanges() {
